@@ -143,6 +143,8 @@ public final class RunTest {
         m.body(0, m.make(Sorts.TRY, inner, 32, m.make(Sorts.RETURN, 7, 0, 0)));
         Due.is("an outer handler", m.run(0, 7, 160), Sorts.RETURNED);
         Due.is("told(3)", m.told(3), 207);
+        m.body(0, m.make(Sorts.TRY, raise, 127, m.make(Sorts.LOOP, 1, more, 0)));
+        Due.is("a handler that does nothing", m.run(0, 7, 160), Sorts.END);
         m.body(0, m.make(Sorts.TRY, Sorts.put(m, 1, 1), 127, more));
         Due.is("nothing to handle", m.run(0, 7, 2), Sorts.END);
         m.body(0, m.make(Sorts.TRY, m.make(Sorts.RETURN, 0, 0, 0), 127, more));

@@ -32,6 +32,7 @@ public final class SameTest {
         int spin = m.make(Sorts.LOOP, 0, Sorts.put(m, 0, 1), 0);
         int make = m.make(Sorts.MAKE, 1, 3, 0);
         Due.is("null or a row", same(Sorts.chain(m, make, spin), 1, 2, 100), 0);
+        Due.is("a row or null", same(Sorts.chain(m, make, spin), 1, 100, 2), 0);
         Due.is("a row both times", same(Sorts.chain(m, make, spin), 1, 99, 100), 1);
         m.body(1, m.make(Sorts.RETURN, 0, 0, 0));
         int call = m.make(Sorts.CALL, 1, 0, 0);

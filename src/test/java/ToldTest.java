@@ -41,6 +41,10 @@ public final class ToldTest {
         m.body(6, handled);
         m.run(6, 6, 160);
         expect(m, 2, 4, 0, 0, 12, 0, 1, 0, 0);
+        int twice = m.make(Sorts.GUARD, 3, m.make(Sorts.GUARD, 3, put, 0), 0);
+        m.body(7, Sorts.chain(m, twice, m.make(Sorts.GUARD, 2, put, 0)));
+        m.run(7, 6, 160);
+        expect(m, 0, 0, 0, 0, 2, 0, 1, 2, 0);
         for (int wrong : new int[] {-1, 9, Integer.MIN_VALUE, Integer.MAX_VALUE}) {
             Due.is("told(" + wrong + ")", m.told(wrong), MarkedRuns.BAD);
         }
