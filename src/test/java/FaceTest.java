@@ -18,6 +18,9 @@ public final class FaceTest {
     }
 
     public static void main(String[] args) throws Exception {
+        Due.sentence("public final class MarkedRuns");
+        Due.is("the class is public and final", MarkedRuns.class.getModifiers() & Modifier.classModifiers(),
+            Modifier.PUBLIC | Modifier.FINAL);
         TreeSet<String> seen = new TreeSet<>();
         for (Field field : MarkedRuns.class.getDeclaredFields()) {
             if (isSeen(field)) {
@@ -40,9 +43,11 @@ public final class FaceTest {
             }
         }
         Due.is("the face " + seen, seen.equals(new TreeSet<>(Arrays.asList(FACE))) ? 1 : 0, 1);
+        Due.sentence("public int item(int row, int i) throws NullPointerException, ArrayIndexOutOfBoundsException;");
         Class<?>[] thrown = MarkedRuns.class.getMethod("item", int.class, int.class).getExceptionTypes();
         Due.is("item's exceptions", Arrays.equals(thrown,
             new Class<?>[] {NullPointerException.class, ArrayIndexOutOfBoundsException.class}) ? 1 : 0, 1);
+        Due.sentence("public static final int NONE = -1, BAD = -2, FULL = -3;");
         Due.is("NONE", MarkedRuns.NONE, -1);
         Due.is("BAD", MarkedRuns.BAD, -2);
         Due.is("FULL", MarkedRuns.FULL, -3);

@@ -1,36 +1,66 @@
 /** Promise 7: how many marks of each kind the latest run had. */
-public final class MarksTest {
-    private static void expect(MarkedRuns m, int... want) {
-        for (int kind = 0; kind < want.length; kind++) {
-            Due.is("marks(" + kind + ")", m.marks(kind), want[kind]);
+public final class MarksTest extends Sorts {
+    private static void ofTheLatestRun() {
+        Due.sentence("How many MARKS of a KIND the latest RUN had");
+        fresh();
+        dueMarks("ahead of a run", 0, 0, 0, 0, 0);
+        int down = chain(put(1, -1), st(PLUS, 0, 0, 1));
+        m.body(1, put(1, 1));
+        int handled = st(TRY, st(RAISE, 0), ALL_KINDS, st(CALL, 1));
+        int all = st(LAST, chain(st(LOOP, 0, down), handled, st(CALL, 1), st(MAKE, 0, 0)), st(MAKE, 0, 0));
+        Due.is("run", run(all, 4, 160), END);
+        dueMarks("run", 4, 3, 1, 1, 2);
+        run(put(1, 1));
+        dueMarks("the next run", 0, 1, 0, 0, 0);
+        m.run(0, 0, 161);
+        dueMarks("behind a refused run", 0, 1, 0, 0, 0);
+        m.same(1, 0, 0, 2);
+        dueMarks("the second run of same", 0, 1, 0, 0, 0);
+        m.same(1, 0, 2, 0);
+        dueMarks("the second run of same", 0, 0, 0, 0, 0);
+    }
+
+    private static void byReserve() {
+        Due.sentence("(by RESERVE, too)");
+        fresh();
+        m.body(1, st(MAKE, 0, 2));
+        int once = chain(put(3, 1), st(LOOP, 3, put(3, 0)));
+        int part = chain(once, st(TRY, st(RAISE, 0), ALL_KINDS, st(CALL, 1)));
+        Due.is("run", run(st(LAST, endless(1), part), 0, 7), STOPPED);
+        dueMarks("run", 5 + 1, 1 + 1, 1, 1, 1);
+        dueTold("run", STOPPED, 0, 0, 0, 7, 10 + 1 + 10 + 2 + 1);
+    }
+
+    private static void noneThatWasNotPaid() {
+        Due.sentence("the MARK is none");
+        fresh();
+        Due.is("run", run(st(LAST, put(1, 1), endless(1)), 0, 11), STOPPED);
+        dueMarks("one FINAL, by the reserve", 30, 1, 0, 1, 0);
+        int five = endless(1);
+        for (int i = 0; i < 5; i++) {
+            five = st(LAST, five, put(2, 1));
         }
+        Due.is("five last parts", run(five, 0, 11), STOPPED);
+        dueMarks("five last parts", 9, 1, 0, 4, 0);
+    }
+
+    private static void bad() {
+        Due.sentence("(by RESERVE, too). BAD.");
+        fresh();
+        for (int time = 0; time < 2; time++) {
+            for (int wrong : new int[] {-1, -2, 5, 6, MIN, MAX}) {
+                Due.is("marks(" + wrong + ")", m.marks(wrong), BAD);
+            }
+            run(put(1, 1));
+        }
+        Due.is("marks(4)", m.marks(4), 0);
     }
 
     public static void main(String[] args) {
-        MarkedRuns m = new MarkedRuns();
-        int one = Sorts.put(m, 1, 1);
-        int less = m.make(Sorts.LESS, 0, 0, 1);
-        int making = m.make(Sorts.MAKE, 0, 1, 0);
-        int zero = m.make(Sorts.BY, 2, 3, 3);
-        int handled = m.make(Sorts.TRY, zero, 16, making);
-        int loop = m.make(Sorts.LOOP, 0, Sorts.chain(m, one, less, making), 0);
-        int all = m.make(Sorts.LAST, Sorts.chain(m, loop, handled), m.make(Sorts.CALL, 1, 0, 0), 0);
-        m.body(0, all);
-        m.body(1, making);
-        // 2 and 3 times 1 + 1, 10 + 1 by the handler, 10 for the last part, 2 + 1 for its call.
-        Due.is("run", m.run(0, 3, 32), Sorts.END);
-        expect(m, 3, 2, 1, 1, 5);
-        Due.is("told(4)", m.told(4), 32);
-        Due.is("run with 1 less", m.run(0, 3, 31), Sorts.STOPPED);
-        expect(m, 3, 2, 1, 1, 4);
-        Due.is("run by the reserve", m.run(0, 3, 6), Sorts.STOPPED);
-        expect(m, 2, 2, 0, 1, 3);
-        Due.is("told(5)", m.told(5), 13);
-        Due.is("run with 0", m.run(0, 3, 0), Sorts.STOPPED);
-        expect(m, 0, 0, 0, 0, 0);
-        for (int wrong : new int[] {-1, 5, Integer.MIN_VALUE, Integer.MAX_VALUE}) {
-            Due.is("marks(" + wrong + ")", m.marks(wrong), MarkedRuns.BAD);
-        }
+        ofTheLatestRun();
+        byReserve();
+        noneThatWasNotPaid();
+        bad();
         Due.end();
     }
 }

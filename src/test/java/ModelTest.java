@@ -1,10 +1,11 @@
 import java.util.Random;
 
-/** Programs by a fixed seed, and all that is told of their runs, compared with the model. */
+/** Programs by a fixed seed, and all that is told of their runs, compared with the model, 512 calls of each object. */
 public final class ModelTest {
-    private static final int OBJECTS = 6000;
+    private static final int OBJECTS = 40000;
     private static final int CALLS = 512;
 
+    private int calls;
     private final Random random;
     private final MarkedRuns m = new MarkedRuns();
     private final Model model = new Model();
@@ -22,6 +23,14 @@ public final class ModelTest {
         for (int sort : favoured[kindOfStatements]) {
             weights[sort] += 8;
         }
+    }
+
+    /** Behind the last call of an object its answers are free. */
+    private void due(String what, long got, long want) {
+        if (calls < CALLS) {
+            Due.is(what, got, want);
+        }
+        calls++;
     }
 
     private int pickSort() {
@@ -68,7 +77,7 @@ public final class ModelTest {
             case 20 -> { a = operand(4); b = statement(); }
             default -> { }
         }
-        Due.is("make(" + sort + ", " + a + ", " + b + ", " + c + ")", m.make(sort, a, b, c),
+        due("make(" + sort + ", " + a + ", " + b + ", " + c + ")", m.make(sort, a, b, c),
             model.make(sort, a, b, c));
     }
 
@@ -81,27 +90,27 @@ public final class ModelTest {
         switch (random.nextInt(6)) {
             case 0 -> {
                 int what = random.nextInt(9);
-                Due.is("told(" + what + ")", m.told(what), model.told(what));
+                due("told(" + what + ")", m.told(what), model.told(what));
             }
             case 1 -> {
                 int kind = random.nextInt(5);
-                Due.is("marks(" + kind + ")", m.marks(kind), model.marks[kind]);
+                due("marks(" + kind + ")", m.marks(kind), model.marks[kind]);
             }
             case 2 -> {
                 int k = random.nextInt(20);
-                Due.is("began(" + k + ")", m.began(k), k < model.began.size() ? model.began.get(k) : -1);
+                due("began(" + k + ")", m.began(k), k < model.began.size() ? model.began.get(k) : -1);
             }
             case 3 -> {
                 int x = random.nextInt(8);
-                Due.is("variable(" + x + ")", m.variable(x), model.variables[x]);
+                due("variable(" + x + ")", m.variable(x), model.variables[x]);
             }
             case 4 -> {
                 int r = random.nextInt(4);
-                Due.is("size(" + r + ")", m.size(r), model.rows[r] == null ? -1 : model.rows[r].length);
+                due("size(" + r + ")", m.size(r), model.rows[r] == null ? -1 : model.rows[r].length);
             }
             default -> {
                 int what = random.nextInt(6);
-                Due.is("count(" + what + ")", m.count(what), modelCount(what));
+                due("count(" + what + ")", m.count(what), modelCount(what));
             }
         }
     }
@@ -119,22 +128,23 @@ public final class ModelTest {
 
     private void compareAll(String run) {
         for (int what = 0; what <= 8; what++) {
-            Due.is(run + " told(" + what + ")", m.told(what), model.told(what));
+            due(run + " told(" + what + ")", m.told(what), model.told(what));
         }
         for (int kind = 0; kind <= 4; kind++) {
-            Due.is(run + " marks(" + kind + ")", m.marks(kind), model.marks[kind]);
+            due(run + " marks(" + kind + ")", m.marks(kind), model.marks[kind]);
         }
         for (int k = 0; k <= model.began.size(); k++) {
-            Due.is(run + " began(" + k + ")", m.began(k), k < model.began.size() ? model.began.get(k) : -1);
+            due(run + " began(" + k + ")", m.began(k), k < model.began.size() ? model.began.get(k) : -1);
         }
         for (int x = 0; x <= 7; x++) {
-            Due.is(run + " variable(" + x + ")", m.variable(x), model.variables[x]);
+            due(run + " variable(" + x + ")", m.variable(x), model.variables[x]);
         }
         for (int r = 0; r <= 3; r++) {
             int[] row = model.rows[r];
-            Due.is(run + " size(" + r + ")", m.size(r), row == null ? -1 : row.length);
-            for (int i = 0; row != null && i <= row.length; i++) {
-                Due.is(run + " item(" + r + ", " + i + ")", Due.item(m, r, i),
+            due(run + " size(" + r + ")", m.size(r), row == null ? -1 : row.length);
+            // Of a long row the first and the last items, since every look is one of the object's calls.
+            for (int i = 0; row != null && i <= row.length; i = i == 5 ? Math.max(6, row.length - 1) : i + 1) {
+                due(run + " item(" + r + ", " + i + ")", Due.item(m, r, i),
                     i < row.length ? row[i] : Due.INDEX_THROWN);
             }
         }
@@ -143,7 +153,7 @@ public final class ModelTest {
     private void doRun() {
         int method = operand(4), x = small(), budget = budget();
         String run = "run(" + method + ", " + x + ", " + budget + ")";
-        Due.is(run, m.run(method, x, budget), model.run(method, x, budget));
+        due(run, m.run(method, x, budget), model.run(method, x, budget));
         compareAll(run);
     }
 
@@ -158,7 +168,7 @@ public final class ModelTest {
             want = first.equals(model.same()) ? 1 : 0;
         }
         String same = "same(" + method + ", " + x + ", " + budget + ", " + other + ")";
-        Due.is(same, m.same(method, x, budget, other), want);
+        due(same, m.same(method, x, budget, other), want);
         compareAll(same);
     }
 
@@ -167,15 +177,15 @@ public final class ModelTest {
         for (int call = 0; call < toMake; call++) {
             make();
         }
-        for (int call = toMake; call < CALLS; call++) {
+        while (calls < CALLS) {
             int dice = random.nextInt(20);
             if (dice < 3) {
                 make();
             } else if (dice == 3) {
-                Due.is("drop()", m.drop(), model.drop());
+                due("drop()", m.drop(), model.drop());
             } else if (dice < 9) {
                 int method = operand(4), statement = random.nextInt(12) == 0 ? -1 : statement();
-                Due.is("body(" + method + ", " + statement + ")", m.body(method, statement),
+                due("body(" + method + ", " + statement + ")", m.body(method, statement),
                     model.body(method, statement));
             } else if (dice < 15) {
                 doRun();

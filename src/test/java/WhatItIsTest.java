@@ -1,0 +1,151 @@
+/** The boundaries of "What it is": how many statements, their numbers and heights, how many calls. */
+public final class WhatItIsTest extends Sorts {
+    /** Which operands of a sort with parts are statements. */
+    private static final int[][] PARTS = {
+        {BOTH, 0}, {BOTH, 1}, {IF, 1}, {IF, 2}, {LOOP, 1}, {TRY, 0}, {TRY, 2}, {LAST, 0}, {LAST, 1}, {GUARD, 1},
+    };
+
+    private static int withPart(int[] place, int part) {
+        int[] operands = {0, 0, 0};
+        operands[place[1]] = part;
+        return m.make(place[0], operands[0], operands[1], operands[2]);
+    }
+
+    private static void statementsAreAtMost120() {
+        Due.sentence("STATEMENTS, 120 at most");
+        fresh();
+        for (int i = 0; i < 119; i++) {
+            put(0, i);
+        }
+        Due.is("make of the 120th", put(0, 0), 119);
+        Due.is("make of the 121st", put(0, 0), FULL);
+        Due.is("count(4)", m.count(4), 120);
+        m.drop();
+        Due.is("make of the 120th, behind drop()", put(0, 0), 119);
+        Due.is("make of the 121st", put(0, 0), FULL);
+    }
+
+    private static void numbersAreFrom0() {
+        Due.sentence("are numbered from 0 as they are made");
+        fresh();
+        Due.is("the first", put(0, 0), 0);
+        Due.is("the second", st(RETURN, 0), 1);
+        Due.is("a refused one", st(RETURN, 8), BAD);
+        Due.is("the third", st(BOTH, 0, 1), 2);
+        m.drop();
+        Due.is("the third again", st(RAISE, 0), 2);
+    }
+
+    private static void partsHaveLesserNumbers() {
+        Due.sentence("of STATEMENTS with lesser numbers (S, T)");
+        for (int[] place : PARTS) {
+            fresh();
+            String sort = "sort " + place[0] + ", operand " + place[1] + ", ";
+            Due.is(sort + "without any", withPart(place, 0), BAD);
+            put(0, 0);
+            put(0, 0);
+            put(0, 0);
+            Due.is(sort + "of its own number", withPart(place, 3), BAD);
+            Due.is(sort + "of a greater number", withPart(place, 4), BAD);
+            Due.is(sort + "of the number ahead", withPart(place, 2), 3);
+            Due.is(sort + "of number 0", withPart(place, 0), 4);
+            Due.is(sort + "of number -1", withPart(place, -1), BAD);
+        }
+    }
+
+    private static void heightIsAtMost16() {
+        Due.sentence("1, and the greatest of S and T (16 at most)");
+        for (int[] place : PARTS) {
+            fresh();
+            put(0, 0);
+            for (int height = 2; height <= 15; height++) {
+                st(GUARD, 0, height - 2);
+            }
+            String sort = "sort " + place[0] + ", operand " + place[1] + ", ";
+            Due.is(sort + "of height 16", withPart(place, 14), 15);
+            Due.is(sort + "of height 17", withPart(place, 15), BAD);
+            Due.is(sort + "of height 16 once more", withPart(place, 14), 16);
+        }
+    }
+
+    private static void heightCountsFromEverySort() {
+        Due.sentence("1, and the greatest of S and T");
+        for (int[] place : PARTS) {
+            fresh();
+            put(0, 0);
+            int top = 0;
+            for (int height = 2; height <= 16; height++) {
+                top = withPart(place, top);
+                Due.is("sort " + place[0] + ", operand " + place[1] + ", of height " + height, top, height - 1);
+            }
+            Due.is("sort " + place[0] + ", operand " + place[1] + ", of height 17", withPart(place, top), BAD);
+        }
+        fresh();
+        for (int sort = PUT; sort <= GOT; sort++) {
+            if (sort < BOTH || sort > LOOP && sort < TRY || sort == GOT) {
+                st(sort, 0, 0, 0);
+            }
+        }
+        for (int plain = 0; plain < 16; plain++) {
+            int top = plain;
+            for (int height = 2; height <= 7; height++) {
+                top = st(GUARD, 0, top);
+            }
+            Due.is("height 7 over statement " + plain, top, 16 + 6 * plain + 5);
+        }
+        Due.is("only the greatest counts: 8", st(BOTH, 111, 105), 112);
+        Due.is("9", st(IF, 0, 112, 112), 113);
+        Due.is("10", st(LAST, 113, 112), 114);
+        Due.is("11", st(TRY, 0, 0, 114), 115);
+    }
+
+    private static void theLastOf512Calls() {
+        Due.sentence("An object is used for at most 512 calls after it has been made");
+        fresh();
+        put(1, 5);
+        m.body(0, 0);
+        for (int call = 3; call < 512; call++) {
+            m.run(0, 0, 160);
+        }
+        Due.is("count(0) as the 512th call", m.count(0), 509);
+        fresh();
+        put(1, 5);
+        m.body(0, 0);
+        for (int call = 3; call < 512; call++) {
+            m.same(0, 0, 160, 0);
+        }
+        Due.is("count(3) as the 512th call", m.count(3), 509);
+        fresh();
+        m.body(0, endless(1));
+        for (int call = 6; call < 511; call++) {
+            m.run(0, 0, 160);
+        }
+        Due.is("run as the 511th call", m.run(0, 3, 150), STOPPED);
+        Due.is("told(4) as the 512th call", m.told(4), 150);
+    }
+
+    /** Later answers are free, but LANGUAGE.md lets no call throw by itself in any state. */
+    private static void laterCallsEnd() {
+        Due.sentence("what later calls answer is free");
+        fresh();
+        for (int call = 0; call < 3000; call++) {
+            put(1, 5);
+            m.body(call % 8, 0);
+            m.same(0, 0, 160, 20);
+            m.told(call % 9);
+            m.drop();
+        }
+        Due.is("3000 times five calls end", 1, 1);
+    }
+
+    public static void main(String[] args) {
+        statementsAreAtMost120();
+        numbersAreFrom0();
+        partsHaveLesserNumbers();
+        heightIsAtMost16();
+        heightCountsFromEverySort();
+        theLastOf512Calls();
+        laterCallsEnd();
+        Due.end();
+    }
+}
