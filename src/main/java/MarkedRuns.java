@@ -381,12 +381,20 @@ public final class MarkedRuns {
         }
 
         int load(int row, int i) {
-            return isBelow(i, lengthOf(row)) ? cells[starts[row] + i] : 0;
+            if (!isBelow(row, ROWS) || !isBelow(i, lengths[row])) {
+                return 0;
+            }
+            int cell = starts[row] + i;
+            return isBelow(cell, CELLS) ? cells[cell] : 0;
         }
 
         void store(int row, int i, int number) {
-            if (isBelow(i, lengthOf(row))) {
-                cells[starts[row] + i] = number;
+            if (!isBelow(row, ROWS) || !isBelow(i, lengths[row])) {
+                return;
+            }
+            int cell = starts[row] + i;
+            if (isBelow(cell, CELLS)) {
+                cells[cell] = number;
             }
         }
 

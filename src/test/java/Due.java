@@ -2,7 +2,7 @@ import java.io.IOException;
 import java.nio.file.Files;
 import java.nio.file.Path;
 
-/** Compares answers with those that are due, by sentences of the document, and ends a test with exit code 1 if one was not. */
+/** Compares answers with those due, by sentences of the document; ends a test with exit code 1 if one is wrong. */
 final class Due {
     private static final Path DOCUMENT = Path.of("../shared/DOC.md");
 

@@ -25,8 +25,9 @@ public final class HandlersTest extends Sorts {
         m.body(7, st(CALL, 7));
         return new int[][] {
             {st(LOAD, 1, 0, 1), NULL}, {st(STORE, 0, 1, 1), NULL}, {st(LONG, 1, 0), NULL}, {st(CALL, 6), NULL},
-            {chain(row, st(LOAD, 1, 3, 5)), INDEX}, {chain(row, st(STORE, 3, 5, 5)), INDEX}, {chain(below, st(MAKE, 3, 5)), SIZE},
-            {st(BY, 1, 1, 1), ZERO}, {st(REST, 1, 1, 1), ZERO}, {st(RAISE, 1), OWN}, {st(CALL, 7), DEEP},
+            {chain(row, st(LOAD, 1, 3, 5)), INDEX}, {chain(row, st(STORE, 3, 5, 5)), INDEX},
+            {chain(below, st(MAKE, 3, 5)), SIZE}, {st(BY, 1, 1, 1), ZERO}, {st(REST, 1, 1, 1), ZERO},
+            {st(RAISE, 1), OWN}, {st(CALL, 7), DEEP},
         };
     }
 
@@ -126,7 +127,8 @@ public final class HandlersTest extends Sorts {
         Due.sentence("(of OWN 100 and its number)");
         fresh();
         int handled = st(TRY, st(RAISE, 0), 1 << OWN, st(PLUS, 1, 7, 2));
-        int[][] numbers = {{0, 100}, {7, 107}, {-100, 0}, {-101, -1}, {MAX, MIN + 99}, {MAX - 100, MAX}, {MIN, MIN + 100}};
+        int[][] numbers = {{0, 100}, {7, 107}, {-100, 0}, {-101, -1}, {MAX, MIN + 99}, {MAX - 100, MAX},
+            {MIN, MIN + 100}};
         for (int[] one : numbers) {
             Due.is("run of " + one[0], run(handled, one[0], 160), END);
             Due.is("variable(7)", m.variable(7), one[1]);

@@ -75,15 +75,15 @@ public final class MakeTest extends Sorts {
         Due.is("BY x y z", m.variable(4), 3);
         Due.is("REST x y z", m.variable(5), 2);
         fresh();
-        run(chain(put(1, 3), st(MAKE, 2, 1), put(3, 2), put(4, 9), st(STORE, 2, 3, 4), st(LOAD, 5, 2, 3), st(LONG, 6, 2),
-            st(SHARED, 3, 2), st(NULLED, 2)));
+        run(chain(put(1, 3), st(MAKE, 2, 1), put(3, 2), put(4, 9), st(STORE, 2, 3, 4), st(LOAD, 5, 2, 3),
+            st(LONG, 6, 2), st(SHARED, 3, 2), st(NULLED, 2)));
         Due.is("STORE r y x, LOAD x r y", m.variable(5), 9);
         Due.is("LONG x r", m.variable(6), 3);
         Due.is("SAME r s", m.size(3), 3);
         Due.is("NONE r", m.size(2), NONE);
         fresh();
-        int order = chain(st(IF, 0, put(1, 1), put(1, 2)), st(TRY, thrower(ZERO), 16, put(2, 1)), st(LAST, put(3, 1), put(3, 2)),
-            st(GUARD, 1, put(4, 1)));
+        int order = chain(st(IF, 0, put(1, 1), put(1, 2)), st(TRY, thrower(ZERO), 16, put(2, 1)),
+            st(LAST, put(3, 1), put(3, 2)), st(GUARD, 1, put(4, 1)));
         Due.is("run", run(order), END);
         Due.is("IF x S T", m.variable(1), 2);
         Due.is("TRY S n T", m.variable(2), 1);

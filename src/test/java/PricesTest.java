@@ -118,6 +118,9 @@ public final class PricesTest extends Sorts {
         Due.is("a row of 632", run(st(MAKE, 2, 0), 632, 160), STOPPED);
         Due.is("a row of the most", run(st(MAKE, 2, 0), MAX, 160), STOPPED);
         Due.is("told(4)", m.told(4), 2);
+        int over = chain(put(1, 5), st(MAKE, 2, 1), st(MAKE, 2, 0));
+        Due.is("a row of 632 over one of 5", run(over, 632, 160), STOPPED);
+        Due.is("size(2), stopped ahead of it", m.size(2), 5);
     }
 
     private static void makingBelow0() {
@@ -139,8 +142,8 @@ public final class PricesTest extends Sorts {
         m.body(1, put(2, 1));
         int behind = put(3, 1);
         int[][] dear = {
-            {st(LOOP, 0, put(2, 1)), 2, BACK}, {st(CALL, 1), 3, ENTRY}, {st(TRY, st(RAISE, 0), 32, put(2, 1)), 11, HANDLER},
-            {st(MAKE, 0, 0), 2, MAKING},
+            {st(LOOP, 0, put(2, 1)), 2, BACK}, {st(CALL, 1), 3, ENTRY},
+            {st(TRY, st(RAISE, 0), 32, put(2, 1)), 11, HANDLER}, {st(MAKE, 0, 0), 2, MAKING},
         };
         for (int[] one : dear) {
             String mark = "mark " + one[2];

@@ -41,10 +41,10 @@ public final class RefusedTest extends Sorts {
     }
 
     private static final int[][] MAKES = {
-        {-1, 0, 0, 0}, {22, 0, 0, 0}, {PUT, 8, 0, 0}, {PLUS, 0, -1, 0}, {REST, 0, 0, 8}, {MAKE, 4, 0, 0}, {LOAD, 0, -1, 0},
-        {STORE, 0, 0, 8}, {LONG, 0, 4, 0}, {NULLED, -1, 0, 0}, {SHARED, 0, 4, 0}, {BOTH, 0, MAX, 0}, {IF, 0, 0, -1},
-        {LOOP, 0, 119, 0}, {CALL, 8, 0, 0}, {RETURN, -1, 0, 0}, {RAISE, 8, 0, 0}, {TRY, 0, 128, 0}, {LAST, -1, 0, 0},
-        {GUARD, 4, 0, 0}, {GOT, MIN, 0, 0},
+        {-1, 0, 0, 0}, {22, 0, 0, 0}, {PUT, 8, 0, 0}, {PLUS, 0, -1, 0}, {REST, 0, 0, 8}, {MAKE, 4, 0, 0},
+        {LOAD, 0, -1, 0}, {STORE, 0, 0, 8}, {LONG, 0, 4, 0}, {NULLED, -1, 0, 0}, {SHARED, 0, 4, 0}, {BOTH, 0, MAX, 0},
+        {IF, 0, 0, -1}, {LOOP, 0, 119, 0}, {CALL, 8, 0, 0}, {RETURN, -1, 0, 0}, {RAISE, 8, 0, 0}, {TRY, 0, 128, 0},
+        {LAST, -1, 0, 0}, {GUARD, 4, 0, 0}, {GOT, MIN, 0, 0},
     };
 
     /** What each of the numbered calls answers to wrong numbers. */
@@ -72,7 +72,7 @@ public final class RefusedTest extends Sorts {
             case 19: return m.began(-1);
             case 20: return m.size(4);
             case 21: return m.count(6);
-            default: return m.make(MAKES[call - 22][0], MAKES[call - 22][1], MAKES[call - 22][2], MAKES[call - 22][3]);
+            default: return st(MAKES[call - 22][0], MAKES[call - 22][1], MAKES[call - 22][2], MAKES[call - 22][3]);
         }
     }
 

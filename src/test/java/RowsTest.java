@@ -142,6 +142,8 @@ public final class RowsTest extends Sorts {
         run(chain(st(MAKE, 1, 0), st(SHARED, 2, 1), st(NULLED, 1)), 4, 160);
         Due.is("size(1)", m.size(1), NONE);
         Due.is("size(2), the same row once", m.size(2), 4);
+        run(chain(st(MAKE, 1, 0), put(3, 2), st(STORE, 1, 3, 0), st(SHARED, 2, 1), st(NULLED, 1)), 4, 160);
+        Due.is("item(2, 2) stays", Due.item(m, 2, 2), 4);
         Due.is("long of it", thrown(chain(st(MAKE, 1, 0), st(NULLED, 1), st(LONG, 5, 1)), 4), NULL);
     }
 

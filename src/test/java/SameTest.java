@@ -132,8 +132,8 @@ public final class SameTest extends Sorts {
         }
         fresh();
         // Whether two rows are one is not told: a shared row and one made anew have the same size and items.
-        m.body(1, chain(put(1, 0), st(SHARED, 2, 1)));
-        int shared = chain(st(MAKE, 1, 1), st(MAKE, 2, 1), st(CALL, 1), st(LOOP, 0, put(0, 1)));
+        m.body(1, st(SHARED, 2, 1));
+        int shared = chain(st(MAKE, 1, 0), st(MAKE, 2, 0), st(CALL, 1), st(LOOP, 0, put(0, 1)));
         dueSame("a row of its own and a shared one", shared, 4, 50, 1);
     }
 

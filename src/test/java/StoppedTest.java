@@ -201,37 +201,72 @@ public final class StoppedTest extends Sorts {
         Due.is("variable(7)", m.variable(7), 103);
     }
 
+    /** Stops that leave nothing of a budget of 60, or 58, by which a handler or a last part outside could be paid. */
+    private static int[] stops() {
+        return new int[] {endless(1), chain(put(1, 500), st(MAKE, 0, 1))};
+    }
+
+    private static final int[] SPENT = {60, 2};
+
     private static void howeverSuchATEnds() {
         Due.sentence("However such a T ends, by RETURN, by THROWS, or because RESERVE does not do");
-        fresh();
-        int[] parts = {put(1, 1), st(RETURN, 0), st(RAISE, 0), endless(1)};
         for (int t = END; t <= STOPPED; t++) {
-            String run = "a T that ends by " + t;
-            int inner = st(LAST, endless(1), parts[t]);
-            int handled = chain(st(TRY, inner, ALL_KINDS, put(3, 1)), put(3, 1));
-            Due.is(run, run(chain(handled, put(4, 1)), 6, 10), STOPPED);
-            dueTold(run, STOPPED, 0, 0, t == RETURNED ? 6 : 0, 10, t == STOPPED ? 40 : 10);
-            Due.is(run + ": variable(3)", m.variable(3), 0);
-            Due.is(run + ": variable(4)", m.variable(4), 0);
-            Due.is(run + ": variable(7)", m.variable(7), 0);
-            dueBegan(run, inner);
+            fresh();
+            int[] parts = {put(2, 1), st(RETURN, 0), st(RAISE, 0), endless(2)};
+            int[] stops = stops();
+            for (int i = 0; i < stops.length; i++) {
+                String run = "a T that ends by " + t + " behind stop " + i;
+                int last = st(LAST, stops[i], parts[t]);
+                Due.is(run, run(last, 6, 60), STOPPED);
+                dueTold(run, STOPPED, 0, 0, t == RETURNED ? 6 : 0, SPENT[i], t == STOPPED ? 40 : 10);
+                dueBegan(run, last);
+                int handled = chain(st(TRY, last, ALL_KINDS, put(3, 1)), put(3, 1));
+                Due.is(run + " in a TRY", run(chain(handled, put(4, 1)), 6, 60), STOPPED);
+                Due.is(run + ": variable(3)", m.variable(3), 0);
+                Due.is(run + ": variable(4)", m.variable(4), 0);
+                Due.is(run + ": variable(7)", m.variable(7), 0);
+                Due.is(run + ": marks(HANDLER)", m.marks(HANDLER), 0);
+            }
         }
     }
 
     private static void stoppedGoesOnOutside() {
         Due.sentence("STOPPED goes on outside.");
-        fresh();
-        int[] parts = {put(1, 1), st(RETURN, 0), st(RAISE, 0)};
         for (int t = END; t <= THREW; t++) {
-            String run = "a T that ends by " + t;
-            int inner = st(LAST, endless(1), parts[t]);
-            m.body(1, inner);
-            int outer = st(LAST, chain(st(CALL, 1), put(3, 1)), add(4));
-            Due.is(run, run(outer, 6, 10), STOPPED);
-            Due.is(run + ": variable(3)", m.variable(3), 0);
-            Due.is(run + ": variable(4), the outer last part", m.variable(4), 1);
-            dueBegan(run, inner, outer);
-            dueTold(run, STOPPED, 0, 0, t == RETURNED ? 6 : 0, 10, 20);
+            fresh();
+            int[] parts = {put(2, 1), st(RETURN, 0), st(RAISE, 0)};
+            for (int stop : stops()) {
+                String run = "a T that ends by " + t + " behind statement " + stop;
+                int inner = st(LAST, stop, parts[t]);
+                m.body(1, inner);
+                int outer = st(LAST, chain(st(CALL, 1), put(3, 1)), add(4));
+                Due.is(run, run(chain(outer, put(3, 1)), 6, 60), STOPPED);
+                Due.is(run + ": variable(3)", m.variable(3), 0);
+                Due.is(run + ": variable(4), the outer last part", m.variable(4), 1);
+                dueBegan(run, inner, outer);
+                Due.is(run + ": told(5)", m.told(5), 20);
+                Due.is(run + ": told(3)", m.told(3), t == RETURNED ? 6 : 0);
+            }
+        }
+    }
+
+    /** Each kind of mark stops the run as the others do. */
+    private static void byAnyMark() {
+        Due.sentence("the RUN is STOPPED there.");
+        fresh();
+        m.body(1, put(2, 1));
+        int raise = st(RAISE, 0);
+        int[][] dear = {
+            {st(LOOP, 0, put(2, 1)), 2}, {st(CALL, 1), 3}, {st(TRY, raise, ALL_KINDS, put(2, 1)), 11},
+            {st(LAST, raise, put(2, 1)), 11}, {st(MAKE, 0, 0), 2},
+        };
+        for (int kind = BACK; kind <= MAKING; kind++) {
+            String run = "stopped by mark " + kind;
+            int last = st(LAST, guarded(1, 1, dear[kind][0]), chain(put(3, 1), st(GUARD, 1, put(4, 1))));
+            Due.is(run, run(st(TRY, last, ALL_KINDS, put(5, 1)), 1, dear[kind][1]), STOPPED);
+            dueTold(run, STOPPED, 0, 0, 0, 2, kind == FINAL ? 20 : 10, 1, 1, 0);
+            Due.is(run + ": variable(3)", m.variable(3), 1);
+            Due.is(run + ": variable(5)", m.variable(5), 0);
         }
     }
 
@@ -308,6 +343,7 @@ public final class StoppedTest extends Sorts {
         everyMarkIsTheReserves();
         howeverSuchATEnds();
         stoppedGoesOnOutside();
+        byAnyMark();
         noLastInItAnyMore();
         lastsInItBeforeThat();
         theLongestRun();

@@ -85,18 +85,19 @@ public final class WaysTest extends Sorts {
         int call = st(CALL, 5);
         int calls = chain(call, call, call, call, call, call, call, call, call);
         Due.is("9 calls one behind the other", run(calls), END);
-        Due.is("8 methods are under way no more behind a throw", deepTwice(), DEEP);
     }
 
-    /** A handler of DEEP that goes down again, as deep as ahead of it. */
-    private static int deepTwice() {
+    /** A handler of DEEP goes down once more: 7 methods are under way no more behind the throw. */
+    private static void deepTwice() {
+        Due.sentence("DEEP, if 8 METHODS are under way");
         fresh();
-        nest(st(CALL, 0));
-        m.body(1, st(TRY, chain(put(0, 9), st(CALL, 0)), 1 << DEEP, chain(put(0, 6), put(2, 4), st(CALL, 0))));
-        m.run(1, 0, 160);
-        Due.is("told(6)", m.told(6), 8);
+        nest(put(2, 4));
+        int again = chain(put(0, 6), st(CALL, 0));
+        m.body(1, st(TRY, chain(put(0, 9), st(CALL, 0)), 1 << DEEP, again));
+        Due.is("run", m.run(1, 0, 160), END);
+        Due.is("variable(7)", m.variable(7), DEEP);
         Due.is("variable(2)", m.variable(2), 4);
-        return m.told(1);
+        dueTold("run", END, 0, 0, 0, 2 + 14 + 10 + 14, 0, 8);
     }
 
     private static void callsOfNone() {
@@ -164,6 +165,9 @@ public final class WaysTest extends Sorts {
         Due.is("variable(2), behind a return", m.variable(2), -6);
         run(chain(st(CALL, 1), put(0, 4), st(CALL, 1), got), -6, 160);
         Due.is("variable(2), behind two returns", m.variable(2), 4);
+        m.body(2, put(3, 1));
+        run(chain(st(CALL, 1), st(CALL, 2), got), -6, 160);
+        Due.is("variable(2), behind a call without a return", m.variable(2), -6);
     }
 
     private static void theSameForAllMethods() {
@@ -181,6 +185,7 @@ public final class WaysTest extends Sorts {
         choices();
         loops();
         deepCalls();
+        deepTwice();
         callsOfNone();
         deepIsAheadOfNull();
         endsOfCalls();

@@ -80,23 +80,32 @@ public final class WhatItIsTest extends Sorts {
             }
             Due.is("sort " + place[0] + ", operand " + place[1] + ", of height 17", withPart(place, top), BAD);
         }
-        fresh();
         for (int sort = PUT; sort <= GOT; sort++) {
             if (sort < BOTH || sort > LOOP && sort < TRY || sort == GOT) {
-                st(sort, 0, 0, 0);
+                fresh();
+                dueTower("sort " + sort, st(sort, 0, 0, 0), 1);
             }
         }
-        for (int plain = 0; plain < 16; plain++) {
-            int top = plain;
-            for (int height = 2; height <= 7; height++) {
-                top = st(GUARD, 0, top);
-            }
-            Due.is("height 7 over statement " + plain, top, 16 + 6 * plain + 5);
-        }
-        Due.is("only the greatest counts: 8", st(BOTH, 111, 105), 112);
-        Due.is("9", st(IF, 0, 112, 112), 113);
-        Due.is("10", st(LAST, 113, 112), 114);
-        Due.is("11", st(TRY, 0, 0, 114), 115);
+        fresh();
+        int high = guarded(0, 14, put(0, 0));
+        m.body(0, high);
+        dueTower("a CALL of a high BODY", st(CALL, 0), 1);
+        fresh();
+        int low = put(0, 0);
+        dueTower("S and T of heights 7 and 7", st(BOTH, guarded(0, 6, low), guarded(0, 6, low)), 8);
+        fresh();
+        low = put(0, 0);
+        dueTower("S and T of heights 3 and 5", st(LAST, guarded(0, 2, low), guarded(0, 4, low)), 6);
+        fresh();
+        low = put(0, 0);
+        dueTower("S and T of heights 5 and 3", st(TRY, guarded(0, 4, low), 0, guarded(0, 2, low)), 6);
+    }
+
+    /** The statement has that height, since so many guards can be made over it and no more. */
+    private static void dueTower(String what, int statement, int height) {
+        int top = guarded(0, 16 - height, statement);
+        Due.is(what + ": height 16 can be made", top >= 0 ? 1 : 0, 1);
+        Due.is(what + ": height 17 can't", st(GUARD, 0, top), BAD);
     }
 
     private static void theLastOf512Calls() {
