@@ -189,6 +189,14 @@ public final class MakeTest extends Sorts {
         Due.is("a wrong variable", st(PUT, 8, 0), BAD);
         Due.is("a wrong part", st(GUARD, 0, 120), BAD);
         Due.is("a wrong n", st(TRY, 0, 128, 0), BAD);
+        fresh();
+        put(0, 0);
+        for (int i = 1; i < 120; i++) {
+            st(LOOP, 0, i <= 15 ? i - 1 : 0);
+        }
+        Due.is("count(4)", m.count(4), 120);
+        Due.is("a height of 17", st(LOOP, 0, 15), BAD);
+        Due.is("a height of 16", st(LOOP, 0, 14), FULL);
     }
 
     public static void main(String[] args) {

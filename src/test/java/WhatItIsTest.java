@@ -1,4 +1,4 @@
-/** The boundaries of "What it is": how many statements, their numbers and heights, how many calls. */
+/** "What it is": what has prices, what throws, how many statements, their numbers and heights, how many calls. */
 public final class WhatItIsTest extends Sorts {
     /** Which operands of a sort with parts are statements. */
     private static final int[][] PARTS = {
@@ -9,6 +9,35 @@ public final class WhatItIsTest extends Sorts {
         int[] operands = {0, 0, 0};
         operands[place[1]] = part;
         return m.make(place[0], operands[0], operands[1], operands[2]);
+    }
+
+    private static void whatHasAPrice() {
+        Due.sentence("loops, calls, handlers, last parts, makings have prices");
+        fresh();
+        m.body(1, put(1, 1));
+        int twice = chain(put(2, 2), put(3, 1), st(LOOP, 2, st(LESS, 2, 2, 3)));
+        int handled = st(TRY, st(RAISE, 0), 1 << OWN, put(4, 1));
+        int[] statements = {twice, st(CALL, 1), handled, st(LAST, put(4, 1), put(4, 1)), st(MAKE, 0, 0)};
+        int[] prices = {2, 2, 10, 10, 3};
+        for (int kind = BACK; kind <= MAKING; kind++) {
+            Due.is("a run with marks of kind " + kind, run(statements[kind], 9, 160), END);
+            Due.is("kind " + kind + ": told(4), with the ENTRY of the RUN", m.told(4), 2 + prices[kind]);
+        }
+        int free = chain(put(1, 5), st(IF, 1, st(GUARD, 0, st(PLUS, 2, 1, 1)), put(2, 0)));
+        Due.is("a run of all else", run(chain(free, st(SHARED, 1, 2), st(NULLED, 1), st(GOT, 3)), 0, 2), END);
+        Due.is("all else: told(4)", m.told(4), 2);
+    }
+
+    private static void whatThrowsElse() {
+        Due.sentence("what throws else is the machine's own, or one of the program's.");
+        for (int kind = NULL; kind <= DEEP; kind++) {
+            fresh();
+            Due.is("a run that throws kind " + kind, run(thrower(kind)), THREW);
+            Due.is("kind " + kind + ": told(1)", m.told(1), kind);
+        }
+        fresh();
+        Due.is("a run that throws one of the program's", run(st(RAISE, 0), 77, 160), THREW);
+        Due.is("told(2), its number", m.told(2), 77);
     }
 
     private static void statementsAreAtMost120() {
@@ -148,6 +177,8 @@ public final class WhatItIsTest extends Sorts {
     }
 
     public static void main(String[] args) {
+        whatHasAPrice();
+        whatThrowsElse();
         statementsAreAtMost120();
         numbersAreFrom0();
         partsHaveLesserNumbers();
